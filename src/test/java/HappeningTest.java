@@ -11,6 +11,8 @@ public final class HappeningTest {
     stuckBounceEnds();
     step();
     order();
+    raceInNormalOrder();
+    bounceOfOne();
     settle();
     pass();
     passLimits();
@@ -190,6 +192,29 @@ public final class HappeningTest {
     check.due("the ends", x.event(1, 0), 6);
     check.due("end 0", x.step(), 2);
     check.due("end 1", x.step(), 12);
+  }
+
+  private static void raceInNormalOrder() {
+    RelayBank x = Check.bank(3, 2, 0, "a/B", "a/A");
+    x.press(0, 1);
+    check.due("settle", x.settle(200), 1);
+    check.due("relay 0 wins", x.count(5), 1);
+    x.undo();
+    check.due("pass", x.pass(10), 1);
+    check.due("relay 0 wins", x.count(5), 1);
+    x.undo();
+    check.due("step", x.step(), 0);
+    check.due("relay 0 wins", x.count(5), 1);
+  }
+
+  private static void bounceOfOne() {
+    RelayBank x = Check.bank(3, 2, 1, "a");
+    x.press(0, 1);
+    x.step();
+    check.due("bounces", x.count(7), 1);
+    check.due("for one tick", x.event(0, 0), 4);
+    check.due("its end", x.step(), 2);
+    check.due("closed", x.count(6), 1);
   }
 
   private static void settle() {

@@ -13,6 +13,7 @@ public final class QuestionsTest {
     explainBounce();
     undo();
     undoRestores();
+    eachCallIsSaved();
     check.end();
   }
 
@@ -188,6 +189,10 @@ public final class QuestionsTest {
     check.due("nothing changed", x.count(5), 0);
     x.setFault(1, 1);
     check.due("all have faults", x.explain(3), 0);
+    RelayBank race = Check.bank(3, 2, 0, "a/B", "a/A", "0");
+    race.press(0, 1);
+    check.due("in the normal order A wins", race.explain(1), 2 + 4 + 16 + 32);
+    check.due("but by its own fault, or B's", race.explain(2), 1 + 8);
     RelayBank y = Check.bank(1, 1, 0, "/A");
     check.due("open: attracted", y.explain(1), 1);
     check.due("closed: at rest", y.explain(0), 2);
@@ -297,5 +302,42 @@ public final class QuestionsTest {
     x.appendCharacter('?');
     x.load(0);
     check.due("saved", x.count(9), saved);
+  }
+
+  /** Each of the calls saves just one state, also if it changes nothing. */
+  private static void eachCallIsSaved() {
+    int[] answers = {1, 0, 0, 0, 1, 1, 0, 0, 0, 1, 0};
+    for (int call = 0; call < answers.length; call++) {
+      RelayBank x = Check.bank(2, 3, 0, "/a");
+      int events = x.count(2);
+      Check.type(x, "1");
+      check.due("answer of call " + call, savingCall(x, call), answers[call]);
+      check.due("saved behind call " + call, x.count(9), 3);
+      check.due("undo behind call " + call, x.undo(), 2);
+      check.due("events behind call " + call, x.count(2), events);
+      check.due("branches behind call " + call, x.relay(0, 3), 1);
+      check.due("condition behind call " + call, x.condition(0, 0, 0), 2);
+      check.due("time behind call " + call, x.count(1), 0);
+      check.due("keys behind call " + call, x.count(3), 0);
+      check.due("attracted behind call " + call, x.count(5), 0);
+      check.due("fault behind call " + call, x.relay(0, 4), 0);
+      check.due("stuck behind call " + call, x.relay(0, 5), 0);
+    }
+  }
+
+  private static int savingCall(RelayBank x, int call) {
+    switch (call) {
+      case 0: return x.addRelay(1, 1, 1);
+      case 1: return x.setDelays(0, 2, 3, 0);
+      case 2: return x.setCondition(0, 1, 0, 0);
+      case 3: return x.removeBranch(0, 0);
+      case 4: return x.load(0);
+      case 5: return x.press(0, 1);
+      case 6: return x.setFault(0, 1);
+      case 7: return x.stick(0, 1);
+      case 8: return x.step();
+      case 9: return x.settle(1);
+      default: return x.pass(1);
+    }
   }
 }
