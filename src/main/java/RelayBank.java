@@ -337,7 +337,7 @@ public final class RelayBank {
   }
 
   private static boolean isIn(int set, int member) {
-    return bitOf(set, member) == 1;
+    return ((set >>> member) & 1) == 1;
   }
 
   private static int at(int[] row, int index) {
@@ -523,24 +523,13 @@ public final class RelayBank {
 
     boolean conducts(int relay, int failing) {
       int first = relay * BRANCHES;
-      int size = branchesOf(relay);
+      int size = at(sizes, relay);
       for (int branch = 0; branch < size; branch++) {
         if ((at(branches, first + branch) & failing) == 0) {
           return true;
         }
       }
       return false;
-    }
-
-    private int conducting() {
-      int failing = failing();
-      int set = 0;
-      for (int relay = 0; relay < relays; relay++) {
-        if (conducts(relay, failing)) {
-          set |= 1 << relay;
-        }
-      }
-      return set;
     }
 
     boolean isStable() {
@@ -554,13 +543,15 @@ public final class RelayBank {
     }
 
     private int lookAtCoils() {
-      int turned = conducting() ^ fed;
-      for (int relay = 0; relay < relays && turned != 0; relay++) {
-        if (isIn(turned, relay)) {
+      int failing = failing();
+      int turned = 0;
+      for (int relay = 0; relay < relays; relay++) {
+        if (conducts(relay, failing) != isIn(fed, relay)) {
           turnCoil(relay);
+          turned++;
         }
       }
-      return Integer.bitCount(turned);
+      return turned;
     }
 
     // An event that waited for the armature told of the coil as it was, so it goes in any case.
