@@ -5,6 +5,8 @@ import java.lang.reflect.Modifier;
 import java.nio.charset.StandardCharsets;
 import java.nio.file.Files;
 import java.nio.file.Path;
+import java.util.HashMap;
+import java.util.Map;
 import java.util.Set;
 import java.util.TreeSet;
 import java.util.regex.Matcher;
@@ -112,8 +114,55 @@ public final class LanguageTest {
       Matcher matcher = Pattern.compile("\\b(" + word + ")\\b").matcher(code);
       check.due("uses of " + word, matcher.find() ? 1 : 0, 0);
     }
+    methods(code);
     check.due("lambdas and method references", code.contains("->") || code.contains("::") ? 1 : 0, 0);
     check.due("joined texts", code.contains("\"") ? 1 : 0, 0);
+  }
+
+  /** Short methods of few parameters, whose calls go at most eight deep and never in a ring. */
+  private static void methods(String code) {
+    Map<String, String> bodies = new HashMap<>();
+    String type = "(?:(?:void|int|boolean|char|[A-Z]\\w+)(?:\\[\\])? )?";
+    Matcher declared = Pattern.compile(
+        "\n +(?:public |private |static )*" + type + "(\\w+)\\(([^()]*)\\) \\{\n").matcher(code);
+    while (declared.find()) {
+      String name = declared.group(1);
+      if (!name.matches("if|for|while|switch")) {
+        int end = endOfBlock(code, declared.end());
+        String body = code.substring(declared.end(), end);
+        check.due(name + " has at most sixty lines", body.split("\n").length <= 60 ? 1 : 0, 1);
+        check.due(name + " has at most seven parameters",
+            declared.group(2).split(",").length <= 7 ? 1 : 0, 1);
+        check.due("two methods have the name " + name, bodies.containsKey(name) ? 1 : 0, 0);
+        bodies.put(name, body);
+      }
+    }
+    check.due("methods found", bodies.size() > METHODS.length ? 1 : 0, 1);
+    for (String name : bodies.keySet()) {
+      int deep = depth(name, bodies, 0);
+      check.due(name + " goes " + deep + " deep, at most eight", deep <= 8 ? 1 : 0, 1);
+    }
+  }
+
+  private static int endOfBlock(String code, int start) {
+    int open = 1;
+    int at = start;
+    while (open > 0) {
+      open += code.charAt(at) == '{' ? 1 : code.charAt(at) == '}' ? -1 : 0;
+      at++;
+    }
+    return at;
+  }
+
+  private static int depth(String name, Map<String, String> bodies, int above) {
+    int deepest = 0;
+    Matcher called = Pattern.compile("\\b(\\w+)\\(").matcher(bodies.get(name));
+    while (above < 20 && called.find()) {
+      if (bodies.containsKey(called.group(1))) {
+        deepest = Math.max(deepest, depth(called.group(1), bodies, above + 1));
+      }
+    }
+    return deepest + 1;
   }
 
   /** Calls make nothing: all that a bank needs is made by its constructor. */
